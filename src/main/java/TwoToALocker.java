@@ -1053,7 +1053,7 @@ public final class TwoToALocker {
 
     /** How p bears a mate; 0 without one. */
     int borneOf(int p, int mate) {
-      return mate < 0 ? 0 : bearingOf(p, mate);
+      return mate < 0 ? 0 : bearing[p * MOST_PUPILS + mate];
     }
 
     int troubleOf(int p, int l) {
@@ -1066,7 +1066,7 @@ public final class TwoToALocker {
         return CONTENT_IN_NONE;
       }
       int liked = mate < 0 ? CONTENT_ALONE : bearingOf(p, mate);
-      return liked - troubleOf(p, l);
+      return liked - who[p].troubleWith(far[l], above[l]);
     }
 
     int contentOf(int p) {
