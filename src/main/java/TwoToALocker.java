@@ -82,7 +82,7 @@ public final class TwoToALocker {
     if (!now.hasPupil(p)) {
       return NO_SUCH;
     }
-    One one = now.oneAt(p);
+    One one = now.who[p];
     switch (what) {
       case 0: return one.kind();
       case 1: return one.figure;
@@ -232,7 +232,7 @@ public final class TwoToALocker {
     if (!now.hasPupil(p)) {
       return NO_SUCH;
     }
-    int most = borneIfTold(p, now.oneAt(p).figure);
+    int most = borneIfTold(p, now.who[p].figure);
     int best = NONE;
     for (int figure = 0; figure <= LAST_FIGURE; figure++) {
       int borne = borneIfTold(p, figure);
@@ -587,7 +587,7 @@ public final class TwoToALocker {
 
   /** How well p truly bears the one whom p has by the best twos, if p tells that figure. */
   private int borneIfTold(int p, int figure) {
-    One told = oneOf(now.oneAt(p).kind(), figure);
+    One told = oneOf(now.who[p].kind(), figure);
     if (told == null) {
       return 0;
     }
@@ -918,10 +918,6 @@ public final class TwoToALocker {
       return l == IN_NONE || hasLocker(l);
     }
 
-    One oneAt(int p) {
-      return who[p];
-    }
-
     /** Does what a statement of a text tells; whether it could be done. */
     boolean carriesOut(Row text, int at) {
       int first = text.digitAt(at + 1);
@@ -1081,15 +1077,16 @@ public final class TwoToALocker {
       return sum;
     }
 
-    boolean doClash(int a, int b) {
-      return b >= 0 && hour[a] == hour[b];
+    /** Whether p is the lesser of two in one locker at one hour. */
+    boolean leadsClash(int p) {
+      int mate = mateOf(p);
+      return mate > p && hour[mate] == hour[p];
     }
 
     int howManyClash() {
       int many = 0;
       for (int p = 0; p < pupils; p++) {
-        int mate = mateOf(p);
-        if (mate > p && doClash(p, mate)) {
+        if (leadsClash(p)) {
           many++;
         }
       }
@@ -1098,9 +1095,8 @@ public final class TwoToALocker {
 
     int firstClash() {
       for (int p = 0; p < pupils; p++) {
-        int mate = mateOf(p);
-        if (mate > p && doClash(p, mate)) {
-          return 10 * p + mate;
+        if (leadsClash(p)) {
+          return 10 * p + mateOf(p);
         }
       }
       return NONE;
@@ -1176,15 +1172,17 @@ public final class TwoToALocker {
       return bits;
     }
 
-    /** The change of two that leads to the told places, from which those (bits) sit otherwise; NONE. */
+    /** The first change of two that leads to the told places, from which those (bits) sit otherwise; NONE. */
     int changeThatLeadsTo(int[] told, int others) {
-      if (Integer.bitCount(others) != 2) {
-        return NONE;
+      for (int a = 0; a < pupils; a++) {
+        for (int b = a + 1; b < pupils && b < told.length; b++) {
+          boolean justThese = others == (1 << a | 1 << b);
+          if (justThese && told[a] == place[b] && told[b] == place[a]) {
+            return 10 * a + b;
+          }
+        }
       }
-      int a = Integer.numberOfTrailingZeros(others);
-      int b = Integer.numberOfTrailingZeros(others & (others - 1));
-      boolean leads = b < told.length && told[a] == place[b] && told[b] == place[a];
-      return leads ? 10 * a + b : NONE;
+      return NONE;
     }
 
     int firstForged(Row told) {

@@ -141,6 +141,9 @@ public final class BearingTest {
     hasRest(Check.school("p000;p000;p000;"), 3, 1, 0, -4);
     hasRest(Check.school("p050;"), 1, -4);
     hasRest(new TwoToALocker(), 1);
+    // of any two one bears the other at 0, so all twos rest; yet just one is alone
+    hasRest(Check.school("p600;p690;p550;"), 3, 1, 0, -4);
+    hasRest(Check.school("p600;p690;"), 1, 1, 0);
     // smelly 3 would have pupil 2 (11) rather than wet 5 (10), wet 5 smelly 3 (10) than pupil 2 (9),
     // pupil 2 wet 5 (6) than smelly 3 (5): whoever is alone breaks the others
     TwoToALocker y = Check.school("p530;p150;p020;");

@@ -3,11 +3,11 @@ public final class ChangesTest {
   /** Twos that would both gain by a change of 0 and 2. */
   private static final String CROSSED = "p000;p091;p090;p001;l00;l00;m00;m10;m21;m31;";
   /**
-   * Lockers alike; how each bears: 0 (fussy) 1: 0, 2: 1, 3: 2; 1 (smelly) 0: 12, 2: 9, 3: 11;
-   * 2 (wet) 0: 9, 1: 9, 3: 10; 3 (wet) 0: 11, 1: 11, 2: 10. From 02 13 the two 1, 2 change, to 01 23;
-   * from there 0, 3, to 02 13 again.
+   * Lockers without trouble; how each bears: 0 (tidy) 1: 5, 2: 0, 3: 2; 1 (wet) 0: 11, 2: 10, 3: 9;
+   * 2 (smelly) 0: 11, 1: 10, 3: 7; 3 (wet) 0: 8, 1: 9, 2: 7. From 02 13 the two 0, 1 change, to 03 12;
+   * from there 2, 3, to 02 13 again: all content is 29, 30, 29, ..
    */
-  static final String ENDLESS = "p430;p530;p160;p140;l60;l60;m00;m11;m20;m31;";
+  static final String ENDLESS = "p260;p150;p570;p120;l00;l00;m01;m10;m21;m30;";
 
   public static void main(String[] args) {
     agreed();
@@ -41,7 +41,10 @@ public final class ChangesTest {
     Check.due("ahead", x.all(), 12);
     Check.due("then", x.agreedContent(), 48);
     Check.due("it is only thought", x.all(), 12);
-    Check.due("behind 60", Check.school(ENDLESS).agreedContent(), 1 + 11 + 9 + 11 - 4 * 6);
+    Check.due("behind 60", Check.school(ENDLESS).agreedContent(), 29);
+    TwoToALocker later = Check.school(ENDLESS);
+    later.changes(0, 1);
+    Check.due("behind 60, from one change on", later.agreedContent(), 30);
     Check.due("tall goes up", Check.school("p300;p000;l01;l00;m01;m10;").agreedContent(), 24);
     Check.due("in none", Check.school("p000;").agreedContent(), -20);
   }
@@ -84,6 +87,7 @@ public final class ChangesTest {
     Check.due("as many as can be told", x.price(Integer.MAX_VALUE), -4);
     Check.due("below 1", x.price(0), -1);
     Check.due("below 1", x.price(-1), -1);
+    Check.due("more by just 1", Check.school("p000;p010;l00;m00;m10;").price(2), 0);
     // smelly at 9 is borne at 0 by a tidy one at 0
     Check.due("the most there is", Check.school("p200;p590;l00;m00;m10;").price(1), 11);
   }
@@ -95,6 +99,10 @@ public final class ChangesTest {
     Check.due("0 has whom it bears best", x.otherwise(0), -4);
     Check.due("1 has whom it bears best", x.otherwise(1), -4);
     Check.due("its figure stays", x.pupil(2, 1), 9);
+    // a loner is liked less (21): told 0 or 1, 2 is liked more
+    Check.due("the least figure", Check.school("p000;p600;p090;").otherwise(2), 0);
+    // tall, told 9 it is liked more (26) than 1 (24), told 8 just as much
+    Check.due("the greatest figure", Check.school("p090;p090;p300;").otherwise(2), 9);
     // told 0 it would be alike (24), and the first twos leave it alone
     Check.due("alike is not enough", Check.school("p000;p000;p090;").otherwise(2), -4);
     // told 0 or 1 it has 0 (borne 3), told 2 to 5 it has 1 (borne 6)
@@ -115,6 +123,7 @@ public final class ChangesTest {
     TwoToALocker y = Check.school("p005;");
     Check.due("one", y.hours(0), 1);
     Check.due("its hour", y.hours(1), 5);
+    Check.due("hour 1", Check.school("p001;p000;p001;p001;").hours(1), 1);
     Check.due("range", y.hours(2), -1);
     Check.due("range", y.hours(-1), -1);
     Check.due("nobody", new TwoToALocker().hours(0), 0);

@@ -118,12 +118,15 @@ public final class JuneTest {
     }
     judged("p000;", 1, 0, -128);
     judged("p000;", 2, 0, -32768);
-    int[] endless = new int[61];
-    Arrays.fill(endless, 8);
-    judged(ChangesTest.ENDLESS, 0, -4, endless);
-    int[] longer = new int[100];
-    Arrays.fill(longer, 8);
-    judged(ChangesTest.ENDLESS, 2, 61, longer);
+    int[] endless = new int[100];
+    for (int i = 0; i < 100; i++) {
+      endless[i] = 29 + i % 2;
+    }
+    judged(ChangesTest.ENDLESS, 0, -4, Arrays.copyOf(endless, 61));
+    judged(ChangesTest.ENDLESS, 0, 61, Arrays.copyOf(endless, 62));
+    judged(ChangesTest.ENDLESS, 2, 61, endless);
+    endless[60] = 30;
+    judged(ChangesTest.ENDLESS, 1, 60, endless);
     TwoToALocker x = Check.school(crossed);
     Check.shelve(x, 0, 2, 12, 48);
     Check.due("judge", x.judge(0), -4);
@@ -155,6 +158,10 @@ public final class JuneTest {
     Check.due("terms", x.terms(21, 1, 0), 1000000001);
     Check.due("range", x.terms(1, 1, 2), 1000000001);
     Check.due("range", x.terms(1, 1, -1), 1000000001);
+    TwoToALocker two = Check.school("p000;p300;l10;m00;");
+    Check.due("just two", two.terms(3, 5, 0), -33);
+    Check.due("just two", two.terms(4, 8, 0), -36);
+    Check.due("just two", two.terms(4, 8, 1), 0);
     TwoToALocker one = Check.school("p000;");
     Check.due("fewer than two", one.terms(1, 1, 0), 1000000003);
     Check.due("range goes ahead", one.terms(21, 1, 0), 1000000001);
