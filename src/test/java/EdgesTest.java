@@ -23,10 +23,6 @@ public final class EdgesTest {
     Check.end();
   }
 
-  private static void due(TwoToALocker x, long want, String name, int... arguments) {
-    Check.due(Face.text(name, arguments), Face.call(x, name, arguments), want);
-  }
-
   /** One of each kind with figure 9 bears, in that order, whom the text tells. */
   private static void borneBy9(String whom, int... want) {
     for (int kind = 0; kind < 8; kind++) {
@@ -62,25 +58,25 @@ public final class EdgesTest {
     int[][] want = {{0, 2, 9, 11}, {3, 0, 12, 9}, {3, 0, 12, 9}, {0, 2, 9, 11}};
     for (int p = 0; p < 4; p++) {
       for (int l = 0; l < 4; l++) {
-        due(x, want[p][l], "trouble", p, l);
+        Face.due(x, want[p][l], "trouble", p, l);
       }
     }
   }
 
   private static void content() {
     TwoToALocker x = Check.school("p600;p690;p300;p090;l91;l90;m00;m10;m21;");
-    due(x, -11, "content", 0);
-    due(x, -11, "content", 1);
-    due(x, 0, "content", 2);
-    due(x, -20, "content", 3);
+    Face.due(x, -11, "content", 0);
+    Face.due(x, -11, "content", 1);
+    Face.due(x, 0, "content", 2);
+    Face.due(x, -20, "content", 3);
     x.moves(3, 1);
-    due(x, 3 + 2 - 12, "content", 2);
-    due(x, 3 - 9, "content", 3);
+    Face.due(x, 3 + 2 - 12, "content", 2);
+    Face.due(x, 3 - 9, "content", 3);
     x.moves(0, 9);
-    due(x, 1, "content", 1);
-    due(x, -20, "content", 0);
+    Face.due(x, 1, "content", 1);
+    Face.due(x, -20, "content", 0);
     x.moves(1, 9);
-    due(x, -20, "content", 1);
+    Face.due(x, -20, "content", 1);
   }
 
   /** Each of the 28 twos of eight is, in its turn, the only one of its sort. */
@@ -105,11 +101,11 @@ public final class EdgesTest {
 
   private static void onlyClash(int a, int b) {
     TwoToALocker x = Check.school("p000;".repeat(8) + "l00;l00;m" + b + "1;m" + a + "1;");
-    due(x, 1, "clashes", 0);
-    due(x, 10 * a + b, "clashes", 1);
+    Face.due(x, 1, "clashes", 0);
+    Face.due(x, 10 * a + b, "clashes", 1);
     TwoToALocker y = Check.school(eight(a, b, "p001;", "p000;", "p001;") + "l00;m" + b + "0;m" + a + "0;");
-    due(y, 0, "clashes", 0);
-    due(y, -4, "clashes", 1);
+    Face.due(y, 0, "clashes", 0);
+    Face.due(y, -4, "clashes", 1);
   }
 
   /** Smelly ones sit with their like; tidy ones, in none, do not bear them. */
@@ -122,18 +118,18 @@ public final class EdgesTest {
         seated++;
       }
     }
-    due(x, 1, "rather", 0);
-    due(x, 10 * a + b, "rather", 1);
+    Face.due(x, 1, "rather", 0);
+    Face.due(x, 10 * a + b, "rather", 1);
   }
 
   /** The tall one gains above, the other below; those in none gain, but nobody would change with them. */
   private static void onlyChange(int a, int b) {
     TwoToALocker x = Check.school(eight(a, b, "p300;", "p000;", "p000;") + "l00;l01;m" + a + "0;m" + b + "1;");
-    due(x, 9 + 10 - 120, "all");
-    due(x, 1, "agreed");
-    due(x, 12 + 12 - 120, "agreedContent");
-    due(x, 9, "content", a);
-    due(x, 10, "content", b);
+    Face.due(x, 9 + 10 - 120, "all");
+    Face.due(x, 1, "agreed");
+    Face.due(x, 12 + 12 - 120, "agreedContent");
+    Face.due(x, 9, "content", a);
+    Face.due(x, 10, "content", b);
   }
 
   private static void onlyJune(int a, int b) {
@@ -143,34 +139,34 @@ public final class EdgesTest {
       x.put(0, p, (p == a ? b : p == b ? a : p) / 2);
     }
     boolean mates = a / 2 == b / 2;
-    due(x, mates ? 0 : 1 << a | 1 << b, "june", 0, 0);
-    due(x, mates ? 0 : 1, "june", 0, 1);
-    due(x, mates ? -4 : 10 * a + b, "june", 0, 2);
+    Face.due(x, mates ? 0 : 1 << a | 1 << b, "june", 0, 0);
+    Face.due(x, mates ? 0 : 1, "june", 0, 1);
+    Face.due(x, mates ? -4 : 10 * a + b, "june", 0, 2);
   }
 
   /** Nobody, and being in none, are as good as a mate borne at 0; one borne at 1 is better. */
   private static void ratherThanNobody() {
-    due(Check.school("p600;p680;"), 1, "rather", 0);
-    due(Check.school("p600;p690;"), 0, "rather", 0);
-    due(Check.school("p600;p680;l00;l00;m00;m11;"), 1, "rather", 1);
-    due(Check.school("p600;p690;l00;l00;m00;m11;"), -4, "rather", 1);
-    due(Check.school("p600;p680;l00;m00;m10;"), 0, "rather", 0);
+    Face.due(Check.school("p600;p680;"), 1, "rather", 0);
+    Face.due(Check.school("p600;p690;"), 0, "rather", 0);
+    Face.due(Check.school("p600;p680;l00;l00;m00;m11;"), 1, "rather", 1);
+    Face.due(Check.school("p600;p690;l00;l00;m00;m11;"), -4, "rather", 1);
+    Face.due(Check.school("p600;p680;l00;m00;m10;"), 0, "rather", 0);
     // 2 is borne by 0 at 8 as the mate 1 is, or at 9, and bears 0 better than nobody
-    due(Check.school("p040;p000;p080;l00;m00;m10;"), 0, "rather", 0);
-    due(Check.school("p040;p000;p070;l00;m00;m10;"), 2, "rather", 1);
-    due(Check.school("p000;p080;p040;l00;m10;m20;"), 0, "rather", 0);
-    due(Check.school("p010;p080;p040;l00;m10;m20;"), 2, "rather", 1);
+    Face.due(Check.school("p040;p000;p080;l00;m00;m10;"), 0, "rather", 0);
+    Face.due(Check.school("p040;p000;p070;l00;m00;m10;"), 2, "rather", 1);
+    Face.due(Check.school("p000;p080;p040;l00;m10;m20;"), 0, "rather", 0);
+    Face.due(Check.school("p010;p080;p040;l00;m10;m20;"), 2, "rather", 1);
     // three loners of whom two bear one another at 1: alone with nobody they would rather; or at 0
-    due(Check.school("p600;p680;p500;"), 1, "rests", -1);
-    due(Check.school("p600;p690;p500;"), 3, "rests", -1);
+    Face.due(Check.school("p600;p680;p500;"), 1, "rests", -1);
+    Face.due(Check.school("p600;p690;p500;"), 3, "rests", -1);
   }
 
   private static void twos(TwoToALocker x, String name, int all, int... whom) {
-    due(x, all, name, -1);
+    Face.due(x, all, name, -1);
     for (int p = 0; p < whom.length; p++) {
-      due(x, whom[p], name, p);
+      Face.due(x, whom[p], name, p);
     }
-    due(x, all, name, -1);
+    Face.due(x, all, name, -1);
   }
 
   private static void firstOfTwos() {
@@ -201,91 +197,91 @@ public final class EdgesTest {
 
   private static void placed(String text, int all, int... where) {
     TwoToALocker x = Check.school(text);
-    due(x, all, "placed");
+    Face.due(x, all, "placed");
     for (int p = 0; p < where.length; p++) {
-      due(x, where[p], "placedAt", p);
+      Face.due(x, where[p], "placedAt", p);
     }
   }
 
   private static void chain() {
     TwoToALocker x = Check.school(SIX_CHANGES);
-    due(x, 6, "agreed");
-    due(x, 64, "agreedContent");
-    due(x, 37, "all");
+    Face.due(x, 6, "agreed");
+    Face.due(x, 64, "agreedContent");
+    Face.due(x, 37, "all");
     for (int sort = 0; sort <= 2; sort++) {
       Check.shelve(x, 0, sort, CONTENT_OF_SIX);
-      due(x, -4, "judge", 0);
+      Face.due(x, -4, "judge", 0);
       for (int i = 0; i < CONTENT_OF_SIX.length; i++) {
         for (int off = -1; off <= 1; off += 2) {
           x.put(0, i, CONTENT_OF_SIX[i] + off);
-          due(x, i, "judge", 0);
+          Face.due(x, i, "judge", 0);
         }
         x.put(0, i, CONTENT_OF_SIX[i]);
       }
       Check.shelve(x, 0, sort, 37, 42, 40, 43, 44, 59, 64, 64);
-      due(x, 7, "judge", 0);
+      Face.due(x, 7, "judge", 0);
     }
     TwoToALocker y = Check.school(SIX_CHANGES);
     Check.shelve(y, 0, 2, 37);
-    due(y, -4, "judge", 0);
+    Face.due(y, -4, "judge", 0);
     y.moves(0, 9);
-    due(y, 0, "judge", 0);
+    Face.due(y, 0, "judge", 0);
     y.moves(0, 3);
-    due(y, -4, "judge", 0);
-    due(y, 6, "agreed");
+    Face.due(y, -4, "judge", 0);
+    Face.due(y, 6, "agreed");
   }
 
   private static void list() {
     TwoToALocker x = Check.school("p050;p050;p050;p050;p050;l00;l00;");
-    due(x, 28, "list", 0);
-    due(x, 4, "list", 1);
+    Face.due(x, 28, "list", 0);
+    Face.due(x, 4, "list", 1);
     x.moves(4, 0);
-    due(x, 5, "list", 1);
+    Face.due(x, 5, "list", 1);
     x.moves(0, 0);
-    due(x, 4, "list", 1);
+    Face.due(x, 4, "list", 1);
     x.stands(3, 0);
-    due(x, 48 + 9, "list", 0);
-    due(x, 4, "list", 1);
+    Face.due(x, 48 + 9, "list", 0);
+    Face.due(x, 4, "list", 1);
     x.moves(4, 2);
-    due(x, 3, "list", 1);
+    Face.due(x, 3, "list", 1);
     // it is of now, however the pupils and lockers of now came
     x.keep(0, 1, 0, 5);
     x.joins(0, 0);
-    due(x, 48 + 18, "list", 0);
-    due(x, 4, "list", 1);
+    Face.due(x, 48 + 18, "list", 0);
+    Face.due(x, 4, "list", 1);
     TwoToALocker y = new TwoToALocker();
     y.keep(0, 1, 3, 5);
     y.joins(0, 0);
-    due(y, -20, "list", 0);
-    due(y, 0, "list", 1);
+    Face.due(y, -20, "list", 0);
+    Face.due(y, 0, "list", 1);
     y.stands(4, 0);
-    due(y, 12 - 7, "list", 0);
-    due(y, 1, "list", 1);
+    Face.due(y, 12 - 7, "list", 0);
+    Face.due(y, 1, "list", 1);
   }
 
   private static void alone() {
     // giants bear one another at 15: alone it would be less
     TwoToALocker x = Check.school("p750;p750;p000;p000;l00;l00;l00;m00;m10;m21;");
     for (int q : new int[] {0, 1, 99}) {
-      due(x, 0, "alone", q);
+      Face.due(x, 0, "alone", q);
     }
-    due(x, -4, "price", 1);
+    Face.due(x, -4, "price", 1);
     x.changes(0, 3);
     // 3 bears the giant at 7, the giant 3 at 10: by 5 and by 2 more
-    due(x, 2, "alone", 1);
-    due(x, 1, "alone", 2);
-    due(x, 1, "alone", 4);
-    due(x, 0, "alone", 5);
-    due(x, 4, "price", 1);
-    due(x, 1, "price", 2);
-    due(x, -4, "price", 3);
+    Face.due(x, 2, "alone", 1);
+    Face.due(x, 1, "alone", 2);
+    Face.due(x, 1, "alone", 4);
+    Face.due(x, 0, "alone", 5);
+    Face.due(x, 4, "price", 1);
+    Face.due(x, 1, "price", 2);
+    Face.due(x, -4, "price", 3);
   }
 
   /** Alone by the truth is 0: told otherwise, a mate borne at 1 is better, one borne at 0 is not. */
   private static void toldFromAlone() {
-    due(Check.school("p200;p500;p680;"), 0, "otherwise", 2);
-    due(Check.school("p200;p500;p690;"), -4, "otherwise", 2);
-    due(Check.school("p200;p500;p670;"), 0, "otherwise", 2);
+    Face.due(Check.school("p200;p500;p680;"), 0, "otherwise", 2);
+    Face.due(Check.school("p200;p500;p690;"), -4, "otherwise", 2);
+    Face.due(Check.school("p200;p500;p670;"), 0, "otherwise", 2);
   }
 
   private static void hours() {
@@ -294,20 +290,20 @@ public final class EdgesTest {
       x.keep(0, 1, 0, 0);
       for (int many = 1; many <= 8; many++) {
         x.joins(0, hour);
-        due(x, (many + 1) / 2, "hours", 0);
-        due(x, hour, "hours", 1);
+        Face.due(x, (many + 1) / 2, "hours", 0);
+        Face.due(x, hour, "hours", 1);
       }
     }
     TwoToALocker y = Check.school("p005;p005;p004;");
-    due(y, 4, "hours", 1);
+    Face.due(y, 4, "hours", 1);
     y.keep(0, 1, 0, 0);
     y.joins(0, 5);
-    due(y, 5, "hours", 1);
+    Face.due(y, 5, "hours", 1);
     y.joins(0, 3);
     y.joins(0, 3);
-    due(y, 5, "hours", 1);
+    Face.due(y, 5, "hours", 1);
     y.joins(0, 3);
-    due(y, 3, "hours", 1);
+    Face.due(y, 3, "hours", 1);
   }
 
   private static void dents() {
@@ -316,42 +312,42 @@ public final class EdgesTest {
     int[] v = {0, 1, 2, 4, 5, 12, 13, 998, 999};
     int[] byRoom = {0, 0, 0, 0, 1, 2, 3, 230, 230};
     for (int i = 0; i < v.length; i++) {
-      due(x, byRoom[i], "dent", 0, v[i], 1);
-      due(x, v[i] - byRoom[i], "dent", 1, v[i], 1);
+      Face.due(x, byRoom[i], "dent", 0, v[i], 1);
+      Face.due(x, v[i] - byRoom[i], "dent", 1, v[i], 1);
       // of rooms alike the lesser one's part is cut; an odd one of two halves is the lesser one's
       for (int law = 0; law <= 2; law++) {
-        due(x, law == 1 ? v[i] / 2 : v[i] - v[i] / 2, "dent", 2, v[i], law);
-        due(x, law == 1 ? v[i] - v[i] / 2 : v[i] / 2, "dent", 3, v[i], law);
+        Face.due(x, law == 1 ? v[i] / 2 : v[i] - v[i] / 2, "dent", 2, v[i], law);
+        Face.due(x, law == 1 ? v[i] - v[i] / 2 : v[i] / 2, "dent", 3, v[i], law);
       }
-      due(x, v[i] - v[i] / 2, "dent", 0, v[i], 0);
-      due(x, v[i], "dent", 0, v[i], 2);
-      due(x, 0, "dent", 1, v[i], 2);
+      Face.due(x, v[i] - v[i] / 2, "dent", 0, v[i], 0);
+      Face.due(x, v[i], "dent", 0, v[i], 2);
+      Face.due(x, 0, "dent", 1, v[i], 2);
     }
     TwoToALocker turned = Check.school("p750;p200;l00;m00;m10;");
     for (int each : v) {
-      due(turned, each * 10 / 13, "dent", 0, each, 1);
-      due(turned, each - each * 10 / 13, "dent", 1, each, 1);
-      due(turned, 0, "dent", 0, each, 2);
-      due(turned, each, "dent", 1, each, 2);
+      Face.due(turned, each * 10 / 13, "dent", 0, each, 1);
+      Face.due(turned, each - each * 10 / 13, "dent", 1, each, 1);
+      Face.due(turned, 0, "dent", 0, each, 2);
+      Face.due(turned, each, "dent", 1, each, 2);
     }
     // less by just 1: tall ones bear giants at 14, giants tall ones at 15
     TwoToALocker near = Check.school("p350;p750;p750;p350;l00;l00;m00;m10;m21;m31;");
-    due(near, 9, "dent", 0, 9, 2);
-    due(near, 0, "dent", 1, 9, 2);
-    due(near, 0, "dent", 2, 9, 2);
-    due(near, 9, "dent", 3, 9, 2);
+    Face.due(near, 9, "dent", 0, 9, 2);
+    Face.due(near, 0, "dent", 1, 9, 2);
+    Face.due(near, 0, "dent", 2, 9, 2);
+    Face.due(near, 9, "dent", 3, 9, 2);
   }
 
   private static void turns() {
     TwoToALocker x = Check.school("p000;".repeat(8) + "l00;l50;l50;l00;m72;m61;m52;m41;");
-    due(x, 4, "turn", 0);
-    due(x, 4, "turn", 1);
+    Face.due(x, 4, "turn", 0);
+    Face.due(x, 4, "turn", 1);
     x.moves(7, 0);
     x.moves(6, 3);
-    due(x, 6, "turn", 0);
-    due(x, 4, "turn", 1);
+    Face.due(x, 6, "turn", 0);
+    Face.due(x, 4, "turn", 1);
     x.moves(0, 0);
-    due(x, 0, "turn", 0);
-    due(x, 4, "turn", 1);
+    Face.due(x, 0, "turn", 0);
+    Face.due(x, 4, "turn", 1);
   }
 }

@@ -25,6 +25,11 @@ final class Face {
     }
   }
 
+  /** Looks at one call's answer. */
+  static void due(TwoToALocker x, long want, String name, int... arguments) {
+    Check.due(text(name, arguments), call(x, name, arguments), want);
+  }
+
   private static Method method(String name) {
     for (Method one : TwoToALocker.class.getMethods()) {
       if (one.getName().equals(name) && one.getDeclaringClass() == TwoToALocker.class) {
@@ -55,21 +60,27 @@ final class Face {
     return seen.toString();
   }
 
-  /** What the shelves hold; the sort of a row shows in which of the others it could be copied to. */
+  /** What the shelves hold. */
   static String shelves(TwoToALocker x) {
     StringBuilder seen = new StringBuilder();
     for (int d = 0; d < 8; d++) {
-      seen.append(" d").append(x.cost(d)).append("/").append(x.toss(d)).append("/");
-      for (int e = d; e < 8; e++) {
+      seen.append(shelf(x, d));
+      for (int e = 0; e < d; e++) {
+        // rows of one sort, and just those, could be copied
         seen.append(x.copy(d, 0, e, 0, 0) == 0 ? "+" : "-");
       }
-      for (int i = 0; i <= 100; i++) {
-        long element = call(x, "element", d, i);
-        if (element == THROWS_ISE) {
-          break;
-        }
-        seen.append(" ").append(element);
+    }
+    return seen.toString();
+  }
+
+  static String shelf(TwoToALocker x, int d) {
+    StringBuilder seen = new StringBuilder(" d" + x.cost(d) + "/" + x.toss(d) + "/");
+    for (int i = 0; i <= 100; i++) {
+      long element = call(x, "element", d, i);
+      if (element == THROWS_ISE) {
+        break;
       }
+      seen.append(" ").append(element);
     }
     return seen.toString();
   }

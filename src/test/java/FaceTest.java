@@ -25,6 +25,9 @@ public final class FaceTest {
     Integer.MIN_VALUE, Integer.MIN_VALUE + 1, -10000, -2, -1, 0, 1, 2, 3, 4, 5, 6, 7, 8, 9, 10, 20, 21, 99, 100, 101,
     999, 1000, Integer.MAX_VALUE - 1, Integer.MAX_VALUE};
 
+  /** An object is used for at most 512 calls; the others prepare it. */
+  private static final int CALLS_OF_ONE = 380;
+
   public static void main(String[] args) throws Exception {
     face();
     for (String school : new String[] {
@@ -80,6 +83,9 @@ public final class FaceTest {
         while (calls < 4000) {
           call(x, m, at, calls);
           calls++;
+          if (calls % CALLS_OF_ONE == 0) {
+            x = prepared(school);
+          }
           if (!next(at, m.getParameterCount() > 2 ? 1 + calls * 7 : 1)) {
             break;
           }

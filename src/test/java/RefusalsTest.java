@@ -5,9 +5,9 @@ public final class RefusalsTest {
 
   /** Locker 0 is full, 1 has one, 2 nobody and no keys; pupil 3 is in none. */
   private static final String SOME = "p050;p151;p420;p790;l10;l21;l90;m00;m10;m21;n2;n1;k2;k2;k1;";
-  /** Eight pupils and five lockers, two of each in the first four. */
+  /** Eight pupils and five lockers. */
   private static final String FULL =
-      "p050;p151;p252;p353;p454;p555;p650;p751;l10;l21;l30;l41;l50;m00;m10;m21;m31;m42;m52;m63;m73;";
+      "p050;p151;p252;p353;p454;p555;p650;p751;l10;l21;l30;l41;l50;m00;m10;";
   private static final String ONE = "p050;l00;";
 
   /** Shelves of each object here: what they hold. */
@@ -36,7 +36,9 @@ public final class RefusalsTest {
     refused(SOME, -1, "joins", 8, 0);
     refused(SOME, -1, "joins", 8, 6);
     refused(SOME, -1, "joins", EMPTY, 6);
+    refused(SOME, -1, "joins", EMPTY, -1);
     refused(SOME, -1, "joins", BYTES, 6);
+    refused(SOME, -1, "joins", BYTES, -1);
     refused(FULL, -1, "joins", FUSSY, 6);
     refused(FULL, -1, "joins", FUSSY, -1);
     refused(FULL, -1, "joins", -1, 0);
@@ -52,7 +54,8 @@ public final class RefusalsTest {
     refused(FULL, -2, "stands", 9, 1);
     refused(FULL, -1, "stands", 10, 1);
     refused(FULL, -1, "stands", 9, 2);
-    refused(FULL, -1, "stands", -1, -1);
+    refused(FULL, -1, "stands", -1, 0);
+    refused(FULL, -1, "stands", 0, -1);
     refused(SOME, -3, "moves", 3, 0);
     refused(SOME, -3, "moves", 2, 0);
     refused(SOME, -1, "moves", 4, 0);

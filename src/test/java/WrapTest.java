@@ -14,10 +14,6 @@ public final class WrapTest {
     Check.end();
   }
 
-  private static void due(TwoToALocker x, long want, String name, int... arguments) {
-    Check.due(Face.text(name, arguments), Face.call(x, name, arguments), want);
-  }
-
   /** What is put in, and what a row of bytes, shorts, ints keeps of it. */
   private static final int[][] PUT = {
     {0, 0, 0, 0}, {-1, -1, -1, -1}, {127, 127, 127, 127}, {128, -128, 128, 128}, {129, -127, 129, 129},
@@ -33,11 +29,11 @@ public final class WrapTest {
       TwoToALocker x = new TwoToALocker();
       x.row(0, sort, PUT.length);
       for (int i = 0; i < PUT.length; i++) {
-        due(x, 0, "put", 0, i, PUT[i][0]);
-        due(x, PUT[i][sort + 1], "element", 0, i);
+        Face.due(x, 0, "put", 0, i, PUT[i][0]);
+        Face.due(x, PUT[i][sort + 1], "element", 0, i);
       }
       for (int i = 0; i < PUT.length; i++) {
-        due(x, PUT[i][sort + 1], "element", 0, i);
+        Face.due(x, PUT[i][sort + 1], "element", 0, i);
       }
     }
   }
@@ -47,16 +43,16 @@ public final class WrapTest {
       TwoToALocker x = new TwoToALocker();
       Check.shelve(x, 0, sort, MIN, MAX, -1, 128, 32768);
       x.row(1, sort, 5);
-      due(x, 5, "copy", 0, 0, 1, 0, 5);
+      Face.due(x, 5, "copy", 0, 0, 1, 0, 5);
       for (int i = 0; i < 5; i++) {
-        due(x, Face.call(x, "element", 0, i), "element", 1, i);
+        Face.due(x, Face.call(x, "element", 0, i), "element", 1, i);
       }
       for (int i : new int[] {0, 1, 5}) {
         for (int n : new int[] {MAX, MAX - 1, MAX - i + 1, MIN, MIN + 1, MIN - i}) {
-          due(x, -13, "copy", 0, i, 1, 0, n);
-          due(x, -13, "copy", 0, 0, 1, i, n);
-          due(x, -13, "copy", 0, n, 1, i, 1);
-          due(x, -13, "copy", 0, i, 1, n, 0);
+          Face.due(x, -13, "copy", 0, i, 1, 0, n);
+          Face.due(x, -13, "copy", 0, 0, 1, i, n);
+          Face.due(x, -13, "copy", 0, n, 1, i, 1);
+          Face.due(x, -13, "copy", 0, i, 1, n, 0);
         }
       }
     }
@@ -71,22 +67,22 @@ public final class WrapTest {
         TwoToALocker x = Check.school("p000;p000;l00;l00;m00;");
         boolean narrowed = sort <= greatestSort[i];
         Check.shelve(x, 0, sort, more[i], 9);
-        due(x, narrowed ? -4 : 0, "forged", 0);
-        due(x, narrowed ? 0 : -13, "june", 0, 0);
+        Face.due(x, narrowed ? -4 : 0, "forged", 0);
+        Face.due(x, narrowed ? 0 : -13, "june", 0, 0);
         Check.shelve(x, 0, sort, 0, 9 + more[i]);
-        due(x, narrowed ? -4 : 1, "forged", 0);
-        due(x, narrowed ? 0 : -13, "june", 0, 0);
+        Face.due(x, narrowed ? -4 : 1, "forged", 0);
+        Face.due(x, narrowed ? 0 : -13, "june", 0, 0);
         Check.shelve(x, 0, sort, 9, more[i]);
-        due(x, narrowed ? 3 : -13, "june", 0, 0);
-        due(x, narrowed ? 1 : -13, "june", 0, 1);
-        due(x, narrowed ? 1 : -13, "june", 0, 2);
+        Face.due(x, narrowed ? 3 : -13, "june", 0, 0);
+        Face.due(x, narrowed ? 1 : -13, "june", 0, 1);
+        Face.due(x, narrowed ? 1 : -13, "june", 0, 2);
       }
     }
     for (int sort = 0; sort <= 2; sort++) {
       TwoToALocker x = Check.school("p000;p000;l00;l00;m00;");
       for (int no : new int[] {MIN, MAX, -1, 2, 8, 10, 128, 32768}) {
         Check.shelve(x, 0, sort, 0, no);
-        due(x, no == MIN && sort < 2 || no == 32768 && sort == 0 ? -4 : 1, "forged", 0);
+        Face.due(x, no == MIN && sort < 2 || no == 32768 && sort == 0 ? -4 : 1, "forged", 0);
       }
     }
   }
@@ -99,16 +95,16 @@ public final class WrapTest {
         TwoToALocker x = Check.school("p000;p000;l00;l00;m00;");
         boolean narrowed = sort <= (i == 0 ? 0 : 1);
         Check.shelve(x, 0, sort, -8 + more[i]);
-        due(x, narrowed ? -4 : 0, "judge", 0);
+        Face.due(x, narrowed ? -4 : 0, "judge", 0);
       }
     }
     // eight in none are at -160, which no byte holds
     TwoToALocker y = Check.school("p000;".repeat(8));
     for (int sort = 0; sort <= 2; sort++) {
       Check.shelve(y, 0, sort, -160);
-      due(y, sort == 0 ? 0 : -4, "judge", 0);
+      Face.due(y, sort == 0 ? 0 : -4, "judge", 0);
       Check.shelve(y, 0, sort, 96);
-      due(y, 0, "judge", 0);
+      Face.due(y, 0, "judge", 0);
     }
   }
 
@@ -120,20 +116,20 @@ public final class WrapTest {
       TwoToALocker x = Check.school("p000;");
       for (int i = 0; i < put.length; i++) {
         Check.shelve(x, 0, sort, put[i], -20);
-        due(x, skips[sort][i] == 1 ? 1 : 0, "judge", 0);
+        Face.due(x, skips[sort][i] == 1 ? 1 : 0, "judge", 0);
         Check.shelve(x, 0, sort, put[i], put[i]);
-        due(x, skips[sort][i] == 1 ? -4 : 0, "judge", 0);
+        Face.due(x, skips[sort][i] == 1 ? -4 : 0, "judge", 0);
         Check.shelve(x, 0, sort, -20, put[i], put[i]);
-        due(x, skips[sort][i] == 1 ? -4 : 1, "judge", 0);
+        Face.due(x, skips[sort][i] == 1 ? -4 : 1, "judge", 0);
       }
       TwoToALocker y = Check.school("p600;p690;p000;p000;p000;p000;p000;p000;l40;m00;m10;");
-      due(y, -128, "all");
+      Face.due(y, -128, "all");
       Check.shelve(y, 0, sort, -128);
-      due(y, -4, "judge", 0);
+      Face.due(y, -4, "judge", 0);
       Check.shelve(y, 0, sort, -127);
-      due(y, 0, "judge", 0);
+      Face.due(y, 0, "judge", 0);
       Check.shelve(y, 0, sort, -128, -128);
-      due(y, sort == 0 ? -4 : 1, "judge", 0);
+      Face.due(y, sort == 0 ? -4 : 1, "judge", 0);
     }
   }
 
@@ -144,13 +140,13 @@ public final class WrapTest {
     int[] content = {898, 871, 947, 947, 898};
     int[] clashes = {84, 92, 102, 102, 84};
     for (int i = 0; i < z.length; i++) {
-      due(x, content[i], "terms", 20, z[i], 0);
-      due(x, clashes[i], "terms", 20, z[i], 1);
+      Face.due(x, content[i], "terms", 20, z[i], 0);
+      Face.due(x, clashes[i], "terms", 20, z[i], 1);
     }
     // two that are drawn alike change nothing, two that are not change always: of two pupils just those
     TwoToALocker two = Check.school("p050;p350;l00;l01;m00;m11;");
     for (int seed : new int[] {MIN, -65536, -1, 0, 1, 65535, 65536, 123456789, MAX}) {
-      due(two, contentOfTerm(seed), "terms", 1, seed, 0);
+      Face.due(two, contentOfTerm(seed), "terms", 1, seed, 0);
     }
   }
 
@@ -180,17 +176,17 @@ public final class WrapTest {
           all *= t;
           kept *= t - 1;
         }
-        due(x, (all - kept) * (all - kept), "gone", 0, t, n, 0);
-        due(x, all * all, "gone", 0, t, n, 1);
-        due(x, all - kept, "gone", 1, t, n, 0);
-        due(x, all, "gone", 1, t, n, 1);
-        due(x, 1, "gone", 2, t, n, 0);
-        due(x, 1, "gone", 2, t, n, 1);
+        Face.due(x, (all - kept) * (all - kept), "gone", 0, t, n, 0);
+        Face.due(x, all * all, "gone", 0, t, n, 1);
+        Face.due(x, all - kept, "gone", 1, t, n, 0);
+        Face.due(x, all, "gone", 1, t, n, 1);
+        Face.due(x, 1, "gone", 2, t, n, 0);
+        Face.due(x, 1, "gone", 2, t, n, 1);
         Check.due("least terms of 1 in " + t, divisor(all * all, (all - kept) * (all - kept)), 1);
       }
     }
-    due(x, 25600000000L, "gone", 0, 20, 4, 1);
-    due(x, 880843041L, "gone", 0, 20, 4, 0);
+    Face.due(x, 25600000000L, "gone", 0, 20, 4, 1);
+    Face.due(x, 880843041L, "gone", 0, 20, 4, 0);
   }
 
   private static long divisor(long a, long b) {
