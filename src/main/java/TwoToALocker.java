@@ -38,6 +38,10 @@ public final class TwoToALocker {
   private static final int FAULT_OF_STATEMENT = -2000;
   private static final int BILLION = 1000000000;
 
+  /** Written out, as Integer's own constants are not among what LANGUAGE.md lists. */
+  private static final int ALL_BUT_THE_SIGN = 0x7fffffff;
+  private static final int LEAST_INT = -2147483648;
+
   private final School now = new School();
   private final School imaged = new School();
   /** Where what is only tried, and never comes to be, is worked out. */
@@ -510,7 +514,7 @@ public final class TwoToALocker {
   }
 
   private static int drawn(int seed, int below) {
-    return below > 0 ? (seed & Integer.MAX_VALUE) / 65536 % below : 0;
+    return below > 0 ? (seed & ALL_BUT_THE_SIGN) / 65536 % below : 0;
   }
 
   private static boolean isShelf(int d) {
@@ -864,7 +868,7 @@ public final class TwoToALocker {
       switch (sort) {
         case BYTES: return -128;
         case SHORTS: return -32768;
-        default: return Integer.MIN_VALUE;
+        default: return LEAST_INT;
       }
     }
   }

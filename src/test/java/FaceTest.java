@@ -53,6 +53,13 @@ public final class FaceTest {
         Check.due(m.getName() + " bears no public name", publicNames.contains(m.getName()) ? 1 : 0, 0);
       }
     }
+    for (Class<?> inside : TwoToALocker.class.getDeclaredClasses()) {
+      for (Method m : inside.getDeclaredMethods()) {
+        if (Modifier.isPrivate(m.getModifiers())) {
+          Check.due(m.getName() + " inside bears no public name", publicNames.contains(m.getName()) ? 1 : 0, 0);
+        }
+      }
+    }
     for (String one : FACE) {
       Check.due("there is " + one, found.remove(one) ? 1 : 0, 1);
     }

@@ -12,7 +12,11 @@ public final class LanguageTest {
     "Exact\\b", "\\bThread\\b", "\\bSystem\\.(?!arraycopy\\b)", "\\bstatic\\s*\\{", "\\bString\\b", "\\bObject\\b",
     "getMessage", "\\bdouble\\b", "\\bfloat\\b", "\\bprotected\\b", "\\bnative\\b", "\\bvar\\b",
     "catch \\((Runtime|Arithmetic|IndexOutOf|Array|NullPointer|ClassCast|Negative)?Exception\\b",
-    "catch \\((Throwable|Error)\\b", "[^\\x00-\\x7f]"};
+    "catch \\((Throwable|Error)\\b", "[^\\x00-\\x7f]",
+    // the library: functions that rule 4 names or likens, and no constants of its classes
+    "\\b(Integer|Long|Math)\\.(?!(compare|max|min|abs|bitCount|floorDiv|floorMod)\\()",
+    "\\bArrays\\.(?!(copyOf|copyOfRange|fill)\\()",
+    "\\b(Character|Byte|Short|Boolean|Double|Float|Objects|Collections|Map|Set|Optional)\\b"};
 
   public static void main(String[] args) throws Exception {
     String source = Files.readString(MAIN, StandardCharsets.ISO_8859_1);
